@@ -10,6 +10,7 @@ public final class AlarmsTest {
         calm();
         let();
         why();
+        whyBehindEveryCall();
         count();
         countKeepsWhy();
         due.end();
@@ -89,6 +90,39 @@ public final class AlarmsTest {
         x.let(0);
         x.let(1);
         due.is("why()", x.why(), NOTHING);
+    }
+
+    // Each call that is carried out wipes what the refused one ahead of it left.
+    private static void whyBehindEveryCall() {
+        ToolRoom x = new ToolRoom();
+        due.fine(x, "tool", x.kind(10) + x.tool(0, 1), UNKNOWN);
+        due.fine(x, "hang", x.kind(10) + x.hang(1, 0), UNKNOWN + 1);
+        due.fine(x, "unhang", x.kind(10) + x.unhang(1), UNKNOWN + 1);
+        due.fine(x, "kind", x.kind(10) + x.kind(0), UNKNOWN + 1);
+        due.fine(x, "card", x.kind(10) + x.card(0, 5), UNKNOWN + 1);
+        due.fine(x, "rename", x.kind(10) + x.rename(0, 6), UNKNOWN + 1);
+        due.fine(x, "of 0", x.kind(10) + x.of(0, 0), UNKNOWN + 6);
+        due.fine(x, "of 1", x.kind(10) + x.of(0, 1), UNKNOWN);
+        due.fine(x, "of 2", x.kind(10) + x.of(0, 2), UNKNOWN + 10);
+        due.fine(x, "of 3", x.kind(10) + x.of(0, 3), UNKNOWN + 100);
+        due.fine(x, "uncard", x.kind(10) + x.uncard(0), UNKNOWN + 1);
+        due.fine(x, "hone", x.kind(10) + x.hone(0, 50), UNKNOWN + 1);
+        due.fine(x, "use", x.kind(10) + x.use(0, 5), UNKNOWN + 5);
+        due.fine(x, "tray", x.kind(10) + x.tray(0, 2), UNKNOWN + 2);
+        due.fine(x, "shift", x.kind(10) + x.shift(0, 1, 5, 0), UNKNOWN + 1);
+        due.fine(x, "put", x.kind(10) + x.put(0, 1, 7), UNKNOWN + 1);
+        due.fine(x, "get", x.kind(10) + x.get(0, 1), UNKNOWN + 7);
+        due.fine(x, "length", x.kind(10) + x.length(0, 0), UNKNOWN + 2);
+        due.fine(x, "lose", x.kind(10) + x.lose(0, 0), UNKNOWN + 1);
+        due.fine(x, "rack", x.kind(10) + x.rack(0, 1, 3), UNKNOWN + 3);
+        due.fine(x, "lay", x.kind(10) + x.lay(0, 0, 0), UNKNOWN + 1);
+        due.fine(x, "fetch", x.kind(10) + x.fetch(0, 0, 1, 2), UNKNOWN + 1);
+        due.fine(x, "grid", x.kind(10) + x.grid(0, 2, 2), UNKNOWN + 2);
+        due.fine(x, "mark", x.kind(10) + x.mark(0, 1, 1, 4), UNKNOWN + 1);
+        due.fine(x, "cell", x.kind(10) + x.cell(0, 1, 1), UNKNOWN + 4);
+        due.fine(x, "strike", x.kind(10) + x.strike(0, 1), UNKNOWN + 1);
+        due.fine(x, "alarm", x.kind(10) + x.alarm(0, 3), UNKNOWN + 1);
+        due.fine(x, "calm", x.kind(10) + x.calm(0), UNKNOWN + 1);
     }
 
     // Promise 29
